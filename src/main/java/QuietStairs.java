@@ -497,7 +497,7 @@ public final class QuietStairs {
             }
         }
 
-        /** Sets everything anew: before a way back this row may have been another CASE. */
+        /** Sets all of it: before a way back this row may have been another CASE. */
         void begin(int asks, int gives) {
             state = IS_OPEN;
             sum = 0;
@@ -588,16 +588,19 @@ public final class QuietStairs {
             for (int side = 0; side < SIDES; side++) {
                 parties[side] = model.parties[side];
                 box[side] = model.box[side];
-                System.arraycopy(model.offers[side], 0, offers[side], 0, MOST_ROUNDS);
+                System.arraycopy(model.offers[side], 0, offers[side], 0, roundsOver);
                 System.arraycopy(model.logs[side], 0, logs[side], 0, HOURS);
             }
-            for (int i = 0; i < MOST_TERMS; i++) {
+            for (int i = 0; i < termCount; i++) {
                 terms[i].copyFrom(model.terms[i]);
             }
         }
     }
 
-    /** All that is kept: every PARTY, MEDIATOR, CASE and MARK, but not the ROOMS. */
+    /**
+     * All that is kept: every PARTY, MEDIATOR, CASE and MARK, but not the ROOMS. Rows behind a
+     * count are left as they are, so whoever comes to one sets all of it.
+     */
     private static final class House {
         int partyCount;
         int mediatorCount;
@@ -709,13 +712,13 @@ public final class QuietStairs {
             mediatorCount = model.mediatorCount;
             caseCount = model.caseCount;
             markCount = model.markCount;
-            for (int i = 0; i < MOST_PARTIES; i++) {
+            for (int i = 0; i < partyCount; i++) {
                 parties[i].copyFrom(model.parties[i]);
             }
-            for (int i = 0; i < MOST_MEDIATORS; i++) {
+            for (int i = 0; i < mediatorCount; i++) {
                 mediators[i].copyFrom(model.mediators[i]);
             }
-            for (int i = 0; i < MOST_CASES; i++) {
+            for (int i = 0; i < caseCount; i++) {
                 cases[i].copyFrom(model.cases[i]);
             }
         }

@@ -127,8 +127,6 @@ public final class FaceTest {
     }
 
     private static void expect(boolean holds, String text) {
-        if (!holds) {
-            Script.fault("face: " + text);
-        }
+        Script.due("face", text, holds ? 1 : 0, 1);
     }
 }

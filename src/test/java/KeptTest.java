@@ -5,6 +5,7 @@ public final class KeptTest {
         roomsAreNotKept();
         everythingComesBack();
         rowsAreCleanAfterTheWayBack();
+        asManyAsMayBe();
         Script.end();
     }
 
@@ -65,5 +66,38 @@ public final class KeptTest {
                 "of(0, 4) = 0", "of(0, 6) = 1", "of(0, 7) = 1", "put(0, 0) = 0", "put(1, 0) = 0",
                 "learns(0, 0, 0, true) = NONE", "termOf(0, 0, 0) = NUMBER", "strike(0) = NONE",
                 "log(0, 0, 1, 1) = 7", "kin(0, 0, true) = 1");
+    }
+
+    private static void asManyAsMayBe() {
+        Script script = new Script("27 as many as may be");
+        for (int i = 0; i < 8; i++) {
+            script.play("party(" + i + ", " + i % 3 + ") = " + i);
+        }
+        for (int i = 0; i < 4; i++) {
+            script.play("mediator(9, 7) = " + i, "kin(" + i + ", 7, true) = 1");
+        }
+        for (int i = 0; i < 6; i++) {
+            script.play("open(" + i + ", " + (i + 1) + ") = " + i);
+        }
+        for (int i = 0; i < 6; i++) {
+            script.play("mark(" + i + ", " + (i + 1) % 6 + ") = " + (i + 1), "offer(" + i + ", 0, 9) = 0",
+                    "offer(" + i + ", 1, " + (i == 5 ? 9 : i) + ") = " + (i == 5 ? 1 : 2));
+        }
+        for (int i = 0; i < 4; i++) {
+            script.play("offer(4, 0, " + (20 + i) + ") = 0", "offer(4, 1, " + i + ") = 2",
+                    "term(5, 0, true, 1, 5, " + (6 + i) + ") = " + i);
+        }
+        script.play("term(5, 1, false, 2, 0, 23) = 4", "log(5, 1, 23, 2) = 7", "keep() = 1",
+                "strike(5) = 4", "strike(5) = 3", "term(5, 0, false, 1, 5, 5) = 3", "close(4) = 1",
+                "kin(3, 7, false) = 1", "log(5, 1, 23, 6) = 2", "hour(5, 0) = 6", "back() = 1",
+                "many(0) = 8", "many(1) = 4", "many(2) = 6", "many(3) = 5", "many(4) = 1",
+                "many(5) = 6", "many(6) = 1", "many(7) = 5", "many(9) = 1", "kin(3, 7, true) = 0",
+                "of(4, 2) = 0", "of(4, 4) = 5", "offer(4, 0, 1) = FULL", "hour(5, 0) = 5",
+                "hour(5, 3) = 8", "judged(5, 4) = 0", "party(0, 0) = FULL", "mediator(0, 1) = FULL",
+                "open(0, 1) = FULL", "mark(0, 2) = FULL", "term(5, 0, true, 1, 1, 1) = FULL");
+        for (int i = 0; i < 4; i++) {
+            script.play("learns(4, 0, " + (i + 1) + ", true) = " + (19 + i),
+                    "learns(4, 1, " + (i + 1) + ", false) = " + (i + 1));
+        }
     }
 }

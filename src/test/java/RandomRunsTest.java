@@ -97,7 +97,7 @@ public final class RandomRunsTest {
             case "rooms" -> row(3);
             case "term" -> termRow();
             case "termOf" -> row(6, 5, 5);
-            case "hour", "judged" -> row(6, 5);
+            case "hour", "judged" -> new Object[] {mostlySettled(), below(5)};
             case "log" -> row(6, 2, 24, 8);
             case "many" -> row(11);
             default -> new Object[0];
@@ -115,8 +115,18 @@ public final class RandomRunsTest {
     private Object[] termRow() {
         int a = random.nextInt(3) == 0 ? below(24) : 10 + below(4);
         int b = Math.min(23, a + below(random.nextInt(4) == 0 ? 24 : 4));
-        return new Object[] {below(6), below(2), random.nextInt(3) > 0, below(random.nextBoolean() ? 2 : 6),
-            a, random.nextInt(20) == 0 ? a - 1 : b};
+        return new Object[] {mostlySettled(), below(2), random.nextInt(3) > 0,
+            below(random.nextBoolean() ? 2 : 6), a, random.nextInt(20) == 0 ? a - 1 : b};
+    }
+
+    private int mostlySettled() {
+        for (int tries = 0; tries < 4; tries++) {
+            int one = random.nextInt(6);
+            if (plain.of(one, 2) == 1) {
+                return one;
+            }
+        }
+        return below(6);
     }
 
     private Object[] row(int... bounds) {

@@ -185,5 +185,14 @@ public final class TermsTest {
                 "strike(1) = 1", "many(7) = 2", "many(8) = 1", "mark(0, 1) = 1", "many(5) = 1",
                 "many(6) = 1", "open(0, 1) = 2", "close(2) = 1", "many(2) = 3", "many(3) = 0",
                 "many(4) = 2", "many(6) = 2");
+        Script full = new Script("25 many of all that may be").play("party(0, 0) = 0", "party(1, 0) = 1");
+        for (int one = 0; one < 6; one++) {
+            full.play("open(0, 1) = " + one, "offer(" + one + ", 0, 0) = 0", "offer(" + one + ", 1, 0) = 1");
+            for (int term = 0; term < 5; term++) {
+                full.play("term(" + one + ", 1, true, " + term + ", 0, 0) = " + term);
+            }
+        }
+        full.play("many(4) = 6", "many(6) = 6", "many(7) = 30", "many(10) = 30", "log(5, 1, 0, 4) = 7",
+                "many(8) = 1", "many(9) = 4", "many(10) = 25");
     }
 }
