@@ -173,21 +173,21 @@ public final class QuietStairs {
         if (!isCase(one) || !isSide(side) || !isWithin(v, 0, LAST_OFFER)) {
             return NUMBER;
         }
-        Case quarrel = now.cases[one];
-        if (quarrel.state != IS_OPEN) {
+        Case found = now.cases[one];
+        if (found.state != IS_OPEN) {
             return STATE;
         }
-        if (quarrel.box[side] != NO_OFFER) {
+        if (found.box[side] != NO_OFFER) {
             return TWICE;
         }
-        if (quarrel.roundsOver >= MOST_ROUNDS) {
+        if (found.roundsOver >= MOST_ROUNDS) {
             return FULL;
         }
-        quarrel.box[side] = v;
-        if (quarrel.box[1 - side] == NO_OFFER) {
+        found.box[side] = v;
+        if (found.box[1 - side] == NO_OFFER) {
             return 0;
         }
-        return quarrel.endRound() ? 1 : 2;
+        return found.endRound() ? 1 : 2;
     }
 
     public int put(int one, int side) {

@@ -3,7 +3,9 @@ import java.lang.reflect.Modifier;
 import java.util.ArrayList;
 import java.util.Arrays;
 import java.util.Comparator;
+import java.util.HashMap;
 import java.util.List;
+import java.util.Map;
 import java.util.Random;
 
 /**
@@ -20,6 +22,8 @@ public final class RandomRunsTest {
         "log", "keep", "back"};
     private static final String[] QUESTIONS = {"of", "put", "learns", "maySit", "plan", "waits",
         "termOf", "hour", "canHold", "breaks", "judged", "many"};
+
+    private static final Map<String, Method> METHODS = new HashMap<>();
 
     private final Random random;
     private final String title;
@@ -196,6 +200,10 @@ public final class RandomRunsTest {
     }
 
     private static Method method(Class<?> owner, String name) {
+        return METHODS.computeIfAbsent(owner.getName() + "." + name, key -> find(owner, name));
+    }
+
+    private static Method find(Class<?> owner, String name) {
         return Arrays.stream(owner.getDeclaredMethods())
                 .filter(m -> m.getName().equals(name) && !Modifier.isPrivate(m.getModifiers()))
                 .min(Comparator.comparing(Method::toString))

@@ -1,5 +1,6 @@
 import java.lang.reflect.InvocationTargetException;
 import java.lang.reflect.Method;
+import java.lang.reflect.Modifier;
 import java.util.HashMap;
 import java.util.Map;
 
@@ -8,7 +9,9 @@ import java.util.Map;
  * call whose answer is not the one that is due.
  */
 final class Script {
+    private static final int MOST_CALLS = 512;
     private static final Map<String, Method> METHODS = new HashMap<>();
+    private static final Map<String, Call> CALLS = new HashMap<>();
     private static final Map<String, Integer> NAMES = Map.of(
             "NUMBER", -1, "FULL", -2, "TWICE", -3, "STATE", -4, "NONE", -5,
             "MIN", Integer.MIN_VALUE, "MAX", Integer.MAX_VALUE);
@@ -17,14 +20,18 @@ final class Script {
 
     static {
         for (Method method : QuietStairs.class.getDeclaredMethods()) {
-            if (java.lang.reflect.Modifier.isPublic(method.getModifiers())) {
+            if (Modifier.isPublic(method.getModifiers())) {
                 METHODS.put(method.getName(), method);
             }
         }
     }
 
+    private record Call(Method method, Object[] arguments) {
+    }
+
     private final String title;
     private final QuietStairs stairs = new QuietStairs();
+    private int calls = 0;
 
     Script(String title) {
         this.title = title;
@@ -39,20 +46,34 @@ final class Script {
         return this;
     }
 
-    int answer(String call) {
-        int at = call.indexOf('(');
-        String inner = call.substring(at + 1, call.length() - 1).trim();
+    int answer(String text) {
+        calls++;
+        if (calls == MOST_CALLS + 1) {
+            fault(title + ": more than 512 calls, whose answers are free");
+        }
+        Call call = CALLS.computeIfAbsent(text, Script::read);
+        try {
+            return (Integer) call.method.invoke(stairs, call.arguments);
+        } catch (IllegalAccessException | InvocationTargetException e) {
+            throw new IllegalStateException(title + ": " + text, e);
+        }
+    }
+
+    /** How many calls are left to this object. */
+    int left() {
+        return MOST_CALLS - calls;
+    }
+
+    private static Call read(String text) {
+        int at = text.indexOf('(');
+        String inner = text.substring(at + 1, text.length() - 1).trim();
         String[] words = inner.isEmpty() ? new String[0] : inner.split("\\s*,\\s*");
         Object[] arguments = new Object[words.length];
         for (int i = 0; i < words.length; i++) {
             boolean isTruth = words[i].equals("true") || words[i].equals("false");
             arguments[i] = isTruth ? (Object) Boolean.valueOf(words[i]) : (Object) number(words[i]);
         }
-        try {
-            return (Integer) METHODS.get(call.substring(0, at)).invoke(stairs, arguments);
-        } catch (IllegalAccessException | InvocationTargetException e) {
-            throw new IllegalStateException(call, e);
-        }
+        return new Call(METHODS.get(text.substring(0, at)), arguments);
     }
 
     static void due(String title, String call, int got, int want) {
