@@ -86,7 +86,7 @@ public final class QuietStairs {
             return NUMBER;
         }
         Mediator one = now.mediators[mediator];
-        if (one.isKinTo(party) == is) {
+        if (hasBit(one.kinBits, party) == is) {
             return 0;
         }
         one.kinBits ^= 1 << party;
@@ -446,10 +446,6 @@ public final class QuietStairs {
         int tongues;
         int kinBits;
 
-        boolean isKinTo(int party) {
-            return hasBit(kinBits, party);
-        }
-
         void copyFrom(Mediator model) {
             floor = model.floor;
             tongues = model.tongues;
@@ -641,7 +637,7 @@ public final class QuietStairs {
         }
 
         boolean isNear(Mediator one, int party) {
-            return one.isKinTo(party) || one.floor == parties[party].floor;
+            return hasBit(one.kinBits, party) || one.floor == parties[party].floor;
         }
 
         /** The CASES of a CASE's QUARREL; as many steps as there are CASES reach them all. */
